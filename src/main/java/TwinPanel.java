@@ -28,7 +28,7 @@ public final class TwinPanel {
     private final Twin floats;
     private final Strips strips;
     private final Trials trials;
-    /** Of each gather the bits of its sum at START. */
+    /** Of each gather the bits of its sum at START; of others 0. */
     private final long[] startRates;
     private final double[] greatestApart;
     private int currentMode;
@@ -262,7 +262,7 @@ public final class TwinPanel {
     }
 
     public long rate(int m) {
-        return isRead(m) && patch.kinds[m] == GATHER ? startRates[m] : 0L;
+        return isRead(m) ? startRates[m] : 0L;
     }
 
     private boolean isRead(int m) {
@@ -278,7 +278,7 @@ public final class TwinPanel {
         strips.take(doubles.readings);
         for (int m = 0; m < patch.size; m++) {
             greatestApart[m] = 0.0;
-            startRates[m] = doubles.sumBits(m);
+            startRates[m] = patch.kinds[m] == GATHER ? doubles.sumBits(m) : 0L;
         }
         noteApart();
     }
@@ -363,13 +363,13 @@ public final class TwinPanel {
         }
         trials.sweptCount = count;
         for (int j = 0; j < count; j++) {
-            trials.swept[j] = trials.readingBehind(m, first + j * more, n, q);
+            trials.sweptReadings[j] = trials.readingBehind(m, first + j * more, n, q);
         }
         return count;
     }
 
     public long swept(int j) {
-        return j >= 0 && j < trials.sweptCount ? Numbers.bitsOf(trials.swept[j]) : 0L;
+        return j >= 0 && j < trials.sweptCount ? Numbers.bitsOf(trials.sweptReadings[j]) : 0L;
     }
 
     public long halved(int q, int n) {
@@ -460,6 +460,9 @@ public final class TwinPanel {
     private static final class Numbers {
         private static final int FRACTION = 52, BIAS = 1023, ALL_ONES = 2047;
         private static final int FLOAT_FRACTION = 23, FLOAT_BIAS = 127;
+        private static final int SHIFT_BITS = 11;
+        private static final long SIGN = 1L << 63;
+        private static final int FLOAT_SIGN = 1 << 31;
 
         private Numbers() {
         }
@@ -481,8 +484,9 @@ public final class TwinPanel {
         private static double scaled(double v, int shift) {
             double result = v;
             double factor = shift < 0 ? 0.5 : 2.0;
-            for (int left = shift < 0 ? -shift : shift; left > 0; left >>= 1) {
-                if ((left & 1) != 0) {
+            int places = shift < 0 ? -shift : shift;
+            for (int i = 0; i < SHIFT_BITS; i++) {
+                if ((places >> i & 1) != 0) {
                     result *= factor;
                 }
                 factor *= factor;
@@ -496,12 +500,12 @@ public final class TwinPanel {
 
         /** The bits of a finite double that is not -0.0. */
         static long bitsOf(double v) {
-            return v < 0.0 ? packed(-v, FRACTION, BIAS) | Long.MIN_VALUE : packed(v, FRACTION, BIAS);
+            return v < 0.0 ? packed(-v, FRACTION, BIAS) | SIGN : packed(v, FRACTION, BIAS);
         }
 
         /** The bits of a finite float, given as a double, that is not -0.0. */
         static int floatBitsOf(double v) {
-            return v < 0.0 ? (int) packed(-v, FLOAT_FRACTION, FLOAT_BIAS) | Integer.MIN_VALUE
+            return v < 0.0 ? (int) packed(-v, FLOAT_FRACTION, FLOAT_BIAS) | FLOAT_SIGN
                 : (int) packed(v, FLOAT_FRACTION, FLOAT_BIAS);
         }
 
@@ -1050,7 +1054,7 @@ public final class TwinPanel {
                     any = true;
                 }
             }
-            return any ? Long.MIN_VALUE : 0L;
+            return any ? Numbers.SIGN : 0L;
         }
 
         private double quotient(int m, double over, double under) {
@@ -1171,7 +1175,7 @@ public final class TwinPanel {
 
         /** Bits of doubles grow with the size; of numbers below 0 they must fall with it to compare as longs. */
         private static long rank(long sample) {
-            return sample >= 0L ? sample : Long.MIN_VALUE - sample;
+            return sample >= 0L ? sample : Numbers.SIGN - sample;
         }
     }
 
@@ -1179,7 +1183,7 @@ public final class TwinPanel {
     private static final class Trials {
         private final Patch patch;
         private final Twin twin;
-        private final double[] swept = new double[SWEEPS];
+        private final double[] sweptReadings = new double[SWEEPS];
         private int sweptCount;
         private final double[] whole = new double[HALVED_STEPS];
 
