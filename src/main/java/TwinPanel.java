@@ -1004,7 +1004,7 @@ public final class TwinPanel {
                 case QUOTIENT:
                     return quotient(m, in(m, 0), in(m, 1));
                 case ROOT:
-                    return rootOrLamp(m, in(m, 0));
+                    return rounded(Numbers.root(notBelowZero(m, in(m, 0))));
                 case TABLE:
                     return fromTable(m, in(m, 0));
                 case COMPARE:
@@ -1068,12 +1068,12 @@ public final class TwinPanel {
             return over > 0.0 ? 1.5 : -1.5;
         }
 
-        private double rootOrLamp(int m, double v) {
+        private double notBelowZero(int m, double v) {
             if (v < 0.0) {
                 lamps.light(m);
                 return 0.0;
             }
-            return rounded(Numbers.root(v));
+            return v;
         }
 
         private double fromTable(int m, double v) {

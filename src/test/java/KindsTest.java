@@ -36,6 +36,9 @@ public final class KindsTest {
         reads(with(SUM, 0, 1.5, 1.5, -1.5), 1.5, 1.5f, -1);
         reads(with(SUM, 0, 1.0, 0.75), 1.5, 1.5f, 0);
         reads(with(SUM, 0, -1.0, -0.75), -1.5, -1.5f, 0);
+        reads(with(SUM, 0, -1.0, -0.5), -1.5, -1.5f, -1);
+        reads(with(SUM, 0, 1.0, 0.4), 1.0 + 0.4, 1.0f + 0.4f, -1);
+        reads(with(SUM, 0, -1.0, -0.4), -1.0 - 0.4, -1.0f - 0.4f, -1);
         reads(with(SUM, 0, 1.0, 0x1.0p-53, 0x1.0p-53), 1.0, 1.0f, -1);
         reads(with(TURN, 0, 0.1), -0.1, -0.1f, -1);
         reads(with(TURN, 0, 0.0), 0.0, 0.0f, -1);
@@ -94,6 +97,26 @@ public final class KindsTest {
             (0.3f - 0.1f) * (1.1f - -0.9f) / (0.8f - 0.1f) + -0.9f, -1);
     }
 
+    /** Between points, with acts that are each rounded in floats. */
+    private static void manyTableReadings() {
+        java.util.Random random = new java.util.Random(6);
+        for (int round = 0; round < 3000; round++) {
+            double ax = -1.5 * random.nextDouble();
+            double bx = 1.5 * random.nextDouble();
+            double ay = 3.0 * random.nextDouble() - 1.5;
+            double by = 3.0 * random.nextDouble() - 1.5;
+            double v = ax + (bx - ax) * random.nextDouble();
+            TwinPanel x = with(TABLE, 0, v);
+            x.point(3, b(ax), b(ay));
+            x.point(3, b(bx), b(by));
+            double due = (v - ax) * (by - ay) / (bx - ax) + ay;
+            float fx = (float) ax;
+            float fy = (float) ay;
+            float dueSingle = ((float) v - fx) * ((float) by - fy) / ((float) bx - fx) + fy;
+            reads(x, due, dueSingle, -1);
+        }
+    }
+
     /** Roots of many numbers, small ones too, ten at a time. */
     private static void manyRoots() {
         java.util.Random random = new java.util.Random(5);
@@ -138,24 +161,26 @@ public final class KindsTest {
         Due.due("a turned 0.0 reads as 0.0", z.reading(3), 0L);
     }
 
-    /** y' = -y by each rule, one step of 1/4, in both twins. */
+    /** y' = -y by each rule, one step of 1/4, in both twins, from many starts. */
     private static void rules() {
-        for (int rule = 0; rule < 3; rule++) {
+        for (int i = 0; i < 300; i++) {
+            int rule = i % 3;
+            double y = i / 199.7;
             TwinPanel x = new TwinPanel();
             x.module(GATHER, 0L);
             x.cord(0, 2, 0, true);
-            x.begin(0, b(0.7));
+            x.begin(0, b(y));
             x.rule(rule, 2);
             x.mode(1);
-            Due.dueNumber("rate", x.rate(0), -0.7);
+            Due.dueNumber("rate", x.rate(0), -y);
             Due.due("run(1)", x.run(1), 1);
-            Due.dueNumber("by rule " + rule, x.reading(0), decayed(rule));
-            Due.due("by rule " + rule + " in floats", x.single(0), Float.floatToRawIntBits(decayedFloat(rule)));
+            Due.dueNumber("by rule " + rule, x.reading(0), decayed(rule, y));
+            Due.due("by rule " + rule + " in floats", x.single(0),
+                Float.floatToRawIntBits(decayedFloat(rule, (float) y)));
         }
     }
 
-    private static double decayed(int rule) {
-        double y = 0.7;
+    private static double decayed(int rule, double y) {
         double r1 = -y;
         if (rule == 0) {
             return y + 0.25 * r1;
@@ -170,8 +195,7 @@ public final class KindsTest {
         return y + 0.25 * ((((r1 + 2 * r2) + 2 * r3) + r4) / 6);
     }
 
-    private static float decayedFloat(int rule) {
-        float y = 0.7f;
+    private static float decayedFloat(int rule, float y) {
         float r1 = -y;
         if (rule == 0) {
             return y + 0.25f * r1;
@@ -295,6 +319,20 @@ public final class KindsTest {
         }
     }
 
+    /** IN 1 at START and behind one step: only what is above 0 lets IN 0 through. */
+    private static void trackAtZero() {
+        double[] gates = {0.0, -0.5, Double.MIN_VALUE, 1.5};
+        for (double gate : gates) {
+            TwinPanel x = with(TRACK, 0, 0.75, gate);
+            x.begin(3, b(-0.25));
+            reads(x, -0.25, -0.25f, -1);
+            x.run(1);
+            Due.dueNumber("track by " + gate, x.reading(3), gate > 0.0 ? 0.75 : -0.25);
+            Due.due("track in floats by " + gate, x.single(3),
+                Float.floatToRawIntBits((float) gate > 0.0f ? 0.75f : -0.25f));
+        }
+    }
+
     /** A delay and a track of a gather take what was read ahead of the step, not what its stages read. */
     private static void rememberedAheadOfStages() {
         for (int rule = 0; rule < 3; rule++) {
@@ -325,6 +363,7 @@ public final class KindsTest {
         plainKinds();
         quotientsAndRoots();
         tables();
+        manyTableReadings();
         manyRoots();
         turnedCords();
         rules();
@@ -333,6 +372,7 @@ public final class KindsTest {
         lampOfOneTwin();
         noise();
         delayAndTrack();
+        trackAtZero();
         rememberedAheadOfStages();
         Due.end();
     }

@@ -196,6 +196,29 @@ public final class RunsTest {
         Due.due("apart(1) at START again", x.apart(1), 0L);
     }
 
+    /** 1 gathers 0 turned, 2 gathers 0 plain and turned: cords of the one are not those of the other. */
+    private static void ratesOfTwo() {
+        TwinPanel x = new TwinPanel();
+        x.module(NOISE, 0L);
+        x.module(GATHER, 0L);
+        x.module(GATHER, 0L);
+        x.module(GATHER, 0L);
+        x.cord(1, 5, 0, true);
+        x.cord(2, 0, 0, false);
+        x.cord(2, 5, 0, true);
+        x.cord(3, 0, 0, true);
+        x.mode(1);
+        Due.dueNumber("rate(1)", x.rate(1), -0.0);
+        Due.dueNumber("rate(2)", x.rate(2), 0.0);
+        Due.dueNumber("rate(3)", x.rate(3), -0.0);
+        Due.due("rate(0)", x.rate(0), 0L);
+        x.mode(0);
+        x.begin(0, b(0.6));
+        x.mode(1);
+        Due.dueNumber("rate(1) of 0.6", x.rate(1), -0.6);
+        Due.dueNumber("rate(2) of 0.6", x.rate(2), 0.0);
+    }
+
     private static void rates() {
         TwinPanel x = new TwinPanel();
         x.module(NOISE, 0L);
@@ -231,6 +254,7 @@ public final class RunsTest {
         tellers();
         apartSinceStart();
         rates();
+        ratesOfTwo();
         Due.end();
     }
 }

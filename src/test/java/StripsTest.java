@@ -52,6 +52,26 @@ public final class StripsTest {
         Due.due("sample(0, 1)", x.sample(0, 1), 0L);
     }
 
+    /** Each strip holds the readings of its own module. */
+    private static void eachItsOwn() {
+        TwinPanel x = new TwinPanel();
+        for (int m = 0; m < 6; m++) {
+            x.module(NOISE, b(100.0 + m));
+            x.begin(m, b(m / 8.0));
+        }
+        for (int s = 0; s < 6; s++) {
+            x.strip(5 - s);
+        }
+        x.mode(1);
+        for (int i = 0; i < 8; i++) {
+            for (int s = 0; s < 6; s++) {
+                Due.due("sample(" + s + ", " + i + ")", x.sample(s, i), x.reading(5 - s));
+                Due.due("samples(" + s + ")", x.samples(s), i + 1);
+            }
+            x.run(1);
+        }
+    }
+
     /** Places found here from the samples told; of a noise, a delay, a gather, and a noise from below 0. */
     private static void crossingsAndPeaks() {
         TwinPanel x = new TwinPanel();
@@ -146,6 +166,7 @@ public final class StripsTest {
 
     public static void main(String[] args) {
         strips();
+        eachItsOwn();
         crossingsAndPeaks();
         flatTops();
         peakAtTheEnd();
