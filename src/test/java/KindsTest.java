@@ -97,6 +97,21 @@ public final class KindsTest {
             (0.3f - 0.1f) * (1.1f - -0.9f) / (0.8f - 0.1f) + -0.9f, -1);
     }
 
+    /** At a point's x its y is read, in floats too, whichever side of the double the float is on. */
+    private static void tablesAtTheirPoints() {
+        java.util.Random random = new java.util.Random(8);
+        for (int round = 0; round < 600; round++) {
+            double[] xs = {-1.5 * random.nextDouble(), 0.5 * random.nextDouble(), 0.6 + 0.9 * random.nextDouble()};
+            double[] ys = new double[3];
+            TwinPanel x = with(TABLE, 0, xs[round % 3]);
+            for (int i = 0; i < 3; i++) {
+                ys[i] = 3.0 * random.nextDouble() - 1.5;
+                x.point(3, b(xs[i]), b(ys[i]));
+            }
+            reads(x, ys[round % 3], (float) ys[round % 3], -1);
+        }
+    }
+
     /** Between points, with acts that are each rounded in floats. */
     private static void manyTableReadings() {
         java.util.Random random = new java.util.Random(6);
@@ -363,6 +378,7 @@ public final class KindsTest {
         plainKinds();
         quotientsAndRoots();
         tables();
+        tablesAtTheirPoints();
         manyTableReadings();
         manyRoots();
         turnedCords();
