@@ -535,7 +535,7 @@ public final class TwinPanel {
             return ((long) (exponent + bias) << fraction) + whole - (1L << fraction);
         }
 
-        /** The square root, rounded once, of a finite number above 0; 0.0 of others. */
+        /** The square root, rounded once, of a number above 0 and up to 1.5, as readings are; 0.0 of those below. */
         static double root(double of) {
             if (of <= 0.0) {
                 return 0.0;
@@ -549,10 +549,6 @@ public final class TwinPanel {
             for (int i = 0; i < 40 && v < 1.0; i++) {
                 v *= 4.0;
                 back *= 0.5;
-            }
-            for (int i = 0; i < 600 && v >= 4.0; i++) {
-                v *= 0.25;
-                back *= 2.0;
             }
             // one bit more than a double holds; the root of a double is never half way between two
             long root = wholeRoot(v);

@@ -77,8 +77,10 @@ public final class EdgesOfPatchingTest {
         TwinPanel z = Panels.patched();
         Due.due("module", z.module(Panels.NOISE, b(4.0)), Panels.MODULES);
         Due.due("its lamp", z.lamp(Panels.MODULES), NONE);
+        z.begin(Panels.MODULES, b(0.5));
         z.mode(1);
-        Due.due("its reading", z.reading(Panels.MODULES), 0L);
+        Due.dueNumber("its reading", z.reading(Panels.MODULES), 0.5);
+        Due.dueSingle("its single", z.single(Panels.MODULES), 0.5f);
     }
 
     private static void cords() {
@@ -282,6 +284,11 @@ public final class EdgesOfPatchingTest {
             Due.due("check(), the least is " + at, x.check(), at + 1);
             Due.due("broken()", x.broken(), 1);
         }
+        Due.promise(8, "1: it has not the INPUTS that it needs, of each KIND");
+        int[][] needed = {{}, {0}, {}, {0, 1}, {0, 1}, {0, 1}, {0}, {0}, {0, 1}, {0, 1, 2}, {0}, {0}, {0}, {}};
+        for (int kind = 0; kind < 14; kind++) {
+            neededInputs(kind, needed[kind]);
+        }
         Due.promise(8, "2: it is a TABLE with fewer than 2 points");
         TwinPanel t = Panels.fed(Panels.TABLE, 0.0, 0.5);
         for (int points = 0; points <= 3; points++) {
@@ -303,6 +310,41 @@ public final class EdgesOfPatchingTest {
         x.point(1, b(0.5), 0L);
         Due.due("check(): 0 is a circle", x.check(), 1);
         Due.due("broken()", x.broken(), 3);
+    }
+
+    /** All inputs but one are tied: it is right, but where that one is needed; with that one it is right. */
+    private static void neededInputs(int kind, int[] needed) {
+        for (int missing = 0; missing < 6; missing++) {
+            TwinPanel x = new TwinPanel();
+            x.module(Panels.NOISE, 0L);
+            x.module(kind, Panels.settingOf(kind));
+            x.point(1, 0L, 0L);
+            x.point(1, b(1.0), 0L);
+            boolean isNeeded = false;
+            for (int i = 0; i < 6; i++) {
+                x.cord(1, i, i == missing ? NONE : 0, false);
+            }
+            for (int i : needed) {
+                isNeeded |= i == missing;
+            }
+            Due.due("check() of kind " + kind + " without input " + missing, x.check(), isNeeded ? 2 : 0);
+            Due.due("broken()", x.broken(), isNeeded ? 1 : 0);
+            x.cord(1, missing, 0, false);
+            Due.due("check() of kind " + kind + " with all", x.check(), 0);
+        }
+        TwinPanel bare = new TwinPanel();
+        bare.module(Panels.NOISE, 0L);
+        bare.module(kind, Panels.settingOf(kind));
+        bare.point(1, 0L, 0L);
+        bare.point(1, b(1.0), 0L);
+        Due.due("check() of kind " + kind + " without any", bare.check(), kind == Panels.NOISE ? 0 : 2);
+        for (int i : needed) {
+            bare.cord(1, i, 0, false);
+        }
+        if (needed.length == 0) {
+            bare.cord(1, 5, 0, false);
+        }
+        Due.due("check() of kind " + kind + " with what it needs", bare.check(), 0);
     }
 
     private static void circles() {
@@ -355,6 +397,16 @@ public final class EdgesOfPatchingTest {
         z.cord(4, 0, 3, false);
         z.cord(5, 0, 1, false);
         Due.due("check(): 3 and 4 go round", z.check(), 4);
+        Due.promise(8, "3: and through none that remembers, though another circle leads to it");
+        TwinPanel w = new TwinPanel();
+        w.module(Panels.SUM, 0L);
+        w.module(Panels.GATHER, 0L);
+        w.module(Panels.SUM, 0L);
+        w.cord(0, 0, 1, false);
+        w.cord(0, 1, 2, false);
+        w.cord(1, 0, 0, false);
+        w.cord(2, 0, 2, false);
+        Due.due("check(): 2 goes round, 0 by a gather alone", w.check(), 3);
     }
 
     private static void brokenRules() {
@@ -397,6 +449,11 @@ public final class EdgesOfPatchingTest {
             x.module(Panels.SUM, 0L);
             x.cord(0, 0, 1, false);
             Due.due("level of kind " + kind + " behind a sum", x.level(0), remembers ? 0 : 2);
+        }
+        TwinPanel w = new TwinPanel();
+        for (int m = 0; m < 20; m++) {
+            w.module(Panels.SUM, 0L);
+            Due.due("level(" + m + ") of the latest module", w.level(m), 1);
         }
         Due.promise(10, "1 more than the greatest one at the other ends of its CORDS, up to 20");
         TwinPanel y = new TwinPanel();

@@ -67,12 +67,37 @@ public final class EdgesOfRunsTest {
             Due.due("run(1)", x.run(1), fresh.run(1));
             Due.due("digest() behind START", x.digest(), fresh.digest());
         }
+        Due.promise(11, "At START: a DELAY's row is all this, of whatever length it was");
+        for (int s = 1; s <= 16; s++) {
+            for (int ran = 0; ran < 20; ran += 19) {
+                startOfAShorterDelay(s, ran + s % 7);
+            }
+        }
         Due.promise(11, "At START: TIME is 0, STRIPS have what is read then alone");
         x.mode(1);
         Due.due("time()", x.time(), 0);
         Due.due("samples(0)", x.samples(0), 1);
         Due.due("sample(0, 0)", x.sample(0, 0), x.reading(1));
         Due.due("sample(1, 0)", x.sample(1, 0), x.reading(6));
+    }
+
+    /** A delay of 16 ran for a while; then it is one of s. */
+    private static void startOfAShorterDelay(int s, int ran) {
+        TwinPanel x = Panels.fed(Panels.DELAY, 16.0, 0.3);
+        x.begin(1, b(-0.9));
+        x.mode(1);
+        x.run(1 + ran);
+        x.mode(0);
+        x.setting(1, b(s));
+        x.mode(1);
+        TwinPanel fresh = Panels.fed(Panels.DELAY, s, 0.3);
+        fresh.begin(1, b(-0.9));
+        fresh.mode(1);
+        for (int i = 0; i < 18; i++) {
+            Due.due("digest() of a delay of " + s + " at " + i, x.digest(), fresh.digest());
+            x.run(1);
+            fresh.run(1);
+        }
     }
 
     private static void runs() {
@@ -305,6 +330,30 @@ public final class EdgesOfRunsTest {
         Due.due("lamp(2)", x.lamp(2), 0);
         x.mode(1);
         Due.due("lamp(2) at START", x.lamp(2), NONE);
+        Due.promise(18, "Its LAMP: of 20 that lit, all are out at START");
+        TwinPanel all = new TwinPanel();
+        for (int m = 0; m < 20; m++) {
+            all.module(Panels.GATHER, 0L);
+            all.cord(m, 0, m, false);
+            all.begin(m, b(1.25));
+        }
+        all.rule(0, 1);
+        for (int again = 0; again < 2; again++) {
+            all.mode(1);
+            for (int m = 0; m < 20; m++) {
+                Due.due("lamp(" + m + ") at START", all.lamp(m), NONE);
+            }
+            all.run(3);
+            for (int m = 0; m < 20; m++) {
+                Due.due("lamp(" + m + ")", all.lamp(m), 1);
+            }
+        }
+        Due.promise(18, "Its LAMP: 0, that lit at a START behind a run");
+        TwinPanel again = Panels.fed(Panels.SUM, 0.0, 1.0, 0.75);
+        again.mode(1);
+        again.run(9);
+        again.mode(1);
+        Due.due("lamp(2)", again.lamp(2), 0);
         Due.promise(18, "Its LAMP: 300, that lit with the last STEP");
         TwinPanel y = slowly();
         y.run(100);
@@ -383,6 +432,19 @@ public final class EdgesOfRunsTest {
         x.begin(1, b(0.2));
         x.mode(1);
         Due.dueNumber("rate(3)", x.rate(3), -0.2);
+        Due.promise(20, "THE SUM of 0.0 TURNED alone is -0.0, with any 0.0 it is 0.0");
+        x.mode(0);
+        x.begin(1, 0L);
+        x.mode(1);
+        Due.dueNumber("rate(3)", x.rate(3), -0.0);
+        x.mode(0);
+        x.cord(3, 0, 1, true);
+        x.mode(1);
+        Due.dueNumber("rate(3) of two", x.rate(3), -0.0);
+        x.mode(0);
+        x.cord(3, 3, 1, false);
+        x.mode(1);
+        Due.dueNumber("rate(3) of three", x.rate(3), 0.0);
         Due.promise(20, "0 also: no GATHER");
         Due.due("rate(0)", x.rate(0), 0L);
         Due.due("rate(1)", x.rate(1), 0L);

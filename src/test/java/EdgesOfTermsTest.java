@@ -139,6 +139,70 @@ public final class EdgesOfTermsTest {
         Due.due("lamp of a gather at 1.5", z.lamp(0), -1);
     }
 
+    /** y' = -0.3 y, in doubles, by the words of the document. */
+    private static double step(int rule, double t, double y) {
+        double first = -(0.3 * y);
+        if (rule == 0) {
+            return y + t * first;
+        }
+        if (rule == 1) {
+            double second = -(0.3 * (y + t * first));
+            return y + t / 2.0 * (first + second);
+        }
+        double second = -(0.3 * (y + t / 2.0 * first));
+        double third = -(0.3 * (y + t / 2.0 * second));
+        double fourth = -(0.3 * (y + t * third));
+        return y + t * ((((first + 2.0 * second) + 2.0 * third) + fourth) / 6.0);
+    }
+
+    /** y' = -0.3 y, in floats. */
+    private static float stepOfFloats(int rule, float t, float y) {
+        float first = -(0.3f * y);
+        if (rule == 0) {
+            return y + t * first;
+        }
+        if (rule == 1) {
+            float second = -(0.3f * (y + t * first));
+            return y + t / 2.0f * (first + second);
+        }
+        float second = -(0.3f * (y + t / 2.0f * first));
+        float third = -(0.3f * (y + t / 2.0f * second));
+        float fourth = -(0.3f * (y + t * third));
+        return y + t * ((((first + 2.0f * second) + 2.0f * third) + fourth) / 6.0f);
+    }
+
+    /** Ten gathers and their ten parts, as many modules as there may be, by each rule at the ends of k. */
+    private static void rules() {
+        for (int rule = 0; rule < 3; rule++) {
+            for (int k : new int[] {1, 2, 5, 19, 20}) {
+                Due.terms("RULE " + rule + ", k " + k);
+                TwinPanel x = new TwinPanel();
+                double[] y = new double[10];
+                float[] f = new float[10];
+                for (int i = 0; i < 10; i++) {
+                    x.module(Panels.GATHER, 0L);
+                    x.module(Panels.PART, b(0.3));
+                    x.cord(2 * i, i % 6, 2 * i + 1, true);
+                    x.cord(2 * i + 1, 0, 2 * i, false);
+                    y[i] = 1.5 - i / 3.3;
+                    f[i] = (float) y[i];
+                    x.begin(2 * i, b(y[i]));
+                }
+                x.rule(rule, k);
+                Due.due("mode(1)", x.mode(1), 0);
+                for (int time = 1; time <= 4; time++) {
+                    Due.due("run(1)", x.run(1), 1);
+                    for (int i = 0; i < 10; i++) {
+                        y[i] = step(rule, 1.0 / (1 << k), y[i]);
+                        f[i] = stepOfFloats(rule, 1.0f / (1 << k), f[i]);
+                        Due.dueNumber("gather " + i + " at " + time, x.reading(2 * i), y[i]);
+                        Due.dueSingle("gather " + i + " in floats at " + time, x.single(2 * i), f[i]);
+                    }
+                }
+            }
+        }
+    }
+
     private static void sums() {
         Due.terms("THE SUM is IN of the least INPUT that has a CORD, and those of others to it, by numbers");
         kind(Panels.SUM, 0.0, 1.0, 1.0f, -1, 1.0, HALF_ULP, HALF_ULP);
@@ -181,6 +245,13 @@ public final class EdgesOfTermsTest {
         kind(Panels.ROOT, 0.0, Math.sqrt(TINY), 0.0f, -1, TINY);
         kind(Panels.ROOT, 0.0, Math.sqrt(1.5), (float) Math.sqrt(1.5), -1, 1.5);
         kind(Panels.ROOT, 0.0, 1.0, 1.0f, -1, 1.0);
+        Due.terms("ROOT: rounded once");
+        for (int i = 1; i <= 600; i++) {
+            double in = i / 400.3;
+            kind(Panels.ROOT, 0.0, Math.sqrt(in), (float) Math.sqrt((float) in), -1, in);
+            double square = Math.nextDown(Math.sqrt(in) * Math.sqrt(in));
+            kind(Panels.ROOT, 0.0, Math.sqrt(square), (float) Math.sqrt((float) square), -1, square);
+        }
         TwinPanel y = Panels.fed(Panels.ROOT, 0.0, 0.0);
         y.cord(1, 0, 0, true);
         reads("the root of a turned 0.0", y, 1, 0.0, 0.0f, -1);
@@ -192,6 +263,10 @@ public final class EdgesOfTermsTest {
             Due.due("point " + i, x.point(1, b(xs[i]), b(ys[i])), i + 1);
         }
         return x;
+    }
+
+    private static double between(double in, double x, double y, double nextX, double nextY) {
+        return (in - x) * (nextY - y) / (nextX - x) + y;
     }
 
     private static void tables() {
@@ -225,6 +300,14 @@ public final class EdgesOfTermsTest {
         double[] near = {0.5, Math.nextUp(0.5f)};
         double middle = (near[0] + near[1]) / 2.0;
         reads("a table of near points", table(middle, near, new double[] {-1.5, 1.5}), 1, 0.0, -1.5f, -1);
+        Due.terms("TABLE: at an x its y alone, where what is between would be rounded to another number");
+        double[] odd = {-1.4, -1.3, -1.2};
+        double[] oddYs = {-1.3, 0.1, 0.3};
+        Due.dueTrue("it would in the middle", between(-1.3, -1.4, -1.3, -1.3, 0.1) != 0.1);
+        Due.dueTrue("it would at the last", between(-1.2, -1.3, 0.1, -1.2, 0.3) != 0.3);
+        for (int i = 0; i < 3; i++) {
+            reads("a table at " + odd[i], table(odd[i], odd, oddYs), 1, oddYs[i], (float) oddYs[i], -1);
+        }
         Due.terms("TABLE: every y may be of the greatest size");
         double[] wide = {-1.5, 1.5};
         reads("a table at -0.75", table(-0.75, wide, new double[] {-1.5, 1.5}), 1, -0.75, -0.75f, -1);
@@ -361,6 +444,7 @@ public final class EdgesOfTermsTest {
         afterEdges();
         lamps();
         lampsOfStages();
+        rules();
         sums();
         quotientsAndRoots();
         tables();

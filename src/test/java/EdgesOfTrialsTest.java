@@ -134,7 +134,9 @@ public final class EdgesOfTrialsTest {
 
     private static void swepts() {
         Due.promise(27, "0 also: there is none, ahead of any sweep()");
-        TwinPanel x = Panels.at(3);
+        TwinPanel x = Panels.noises(0.5, 0.25);
+        x.mode(1);
+        x.run(3);
         for (int j = -1; j <= 6; j++) {
             Due.due("swept(" + j + ")", x.swept(j), 0L);
         }

@@ -16,7 +16,7 @@ final class Panels {
 
     /** A setting that the kind takes. */
     static long settingOf(int kind) {
-        return kind == DELAY ? b(3.0) : kind == NOISE ? b(7.0) : kind == PART || kind == LIMIT ? b(0.75) : 0L;
+        return kind == DELAY ? b(3.0) : kind == NOISE ? b(7.0) : kind == PART ? b(0.5) : kind == LIMIT ? b(0.75) : 0L;
     }
 
     /** Nine modules of nine kinds, two strips, a module that is to fail at 12; broken() tells 1. */
@@ -89,6 +89,7 @@ final class Panels {
         }
         x.mode(START);
         x.run(4);
+        x.sweep(PART_AT, b(0.25), b(0.25), 3, 5, 8);
         return x;
     }
 
@@ -115,6 +116,7 @@ final class Panels {
         for (int done = 0; done < time; done += 100) {
             x.run(Math.min(100, time - done));
         }
+        x.sweep(0, b(11.0), b(1.0), 2, 5, 1);
         return x;
     }
 
@@ -134,6 +136,7 @@ final class Panels {
         for (int done = 1; done < samples; done += 100) {
             x.run(Math.min(100, samples - done));
         }
+        x.sweep(0, b(11.0), b(1.0), 2, 5, 0);
         return x;
     }
 

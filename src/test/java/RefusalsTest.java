@@ -456,7 +456,32 @@ public final class RefusalsTest {
         }
     }
 
+    /** A panel in which nothing is lit, swept or broken could not tell that a refused call changed it. */
+    private static void panelsHaveWhatCouldChange() {
+        Due.terms("Refusals: they change nothing");
+        for (Supplier<TwinPanel> panel : ANY) {
+            TwinPanel x = panel.get();
+            Due.due("lamp(8)", x.lamp(8), 0);
+            Due.due("lamp(2)", x.lamp(2), NONE);
+            Due.due("broken()", x.broken(), 1);
+            Due.due("count(5)", x.count(5), 7);
+            Due.due("about(3, 14)", x.about(3, 14), 12);
+            Due.due("time()", x.time(), x.now() == 1 ? 0 : 7);
+            Due.due("samples(1)", x.samples(1), x.now() == 1 ? 1 : 8);
+            for (int j = 0; j < 3; j++) {
+                Due.dueTrue("swept(" + j + ") is not 0", x.swept(j) != 0L);
+            }
+        }
+        for (Supplier<TwinPanel> panel : List.of(FULL_PATCHED, FULL_STARTED, FULL_HELD)) {
+            TwinPanel x = panel.get();
+            Due.due("count(0)", x.count(0), 20);
+            Due.due("count(1)", x.count(1), 6);
+            Due.due("about(2, 13)", x.about(Panels.TABLE_AT, 13), 8);
+        }
+    }
+
     public static void main(String[] args) {
+        panelsHaveWhatCouldChange();
         modules();
         cords();
         points();
