@@ -6,23 +6,6 @@ public final class EdgesOfTermsTest {
         return Due.bits(v);
     }
 
-    /** At START module m reads this, and its lamp is so. */
-    private static void reads(String what, TwinPanel x, int m, double reading, float single, int lamp) {
-        Due.due("mode(1) of " + what, x.mode(1), 0);
-        Due.dueNumber("reading of " + what, x.reading(m), reading);
-        Due.dueSingle("single of " + what, x.single(m), single);
-        Due.due("lamp of " + what, x.lamp(m), lamp);
-    }
-
-    /** What a module of the kind reads of these. */
-    private static void kind(int kind, double setting, double reading, float single, int lamp, double... ins) {
-        StringBuilder what = new StringBuilder("kind " + kind + " of");
-        for (double in : ins) {
-            what.append(' ').append(in);
-        }
-        reads(what.toString(), Panels.fed(kind, setting, ins), ins.length, reading, single, lamp);
-    }
-
     private static void nearestFloats() {
         Due.terms("there SETTINGS, START VALUES, points are the nearest floats of these");
         double up = 1.0 + 0x1.0p-23;
@@ -39,45 +22,45 @@ public final class EdgesOfTermsTest {
             Due.dueSingle("single of start value " + starts[m], x.single(m), due[m]);
             Due.due("lamp of start value " + starts[m], x.lamp(m), -1);
         }
-        kind(Panels.PART, 0.1, 0.1, 0.1f, -1, 1.0);
-        kind(Panels.PART, TINY, TINY, 0.0f, -1, 1.0);
-        kind(Panels.LIMIT, Math.nextDown(1.5), Math.nextDown(1.5), 1.5f, -1, 1.5);
-        kind(Panels.LIMIT, 0.1, -0.1, -0.1f, -1, -1.0);
+        Kinds.kind(Panels.PART, 0.1, 0.1, 0.1f, -1, 1.0);
+        Kinds.kind(Panels.PART, TINY, TINY, 0.0f, -1, 1.0);
+        Kinds.kind(Panels.LIMIT, Math.nextDown(1.5), Math.nextDown(1.5), 1.5f, -1, 1.5);
+        Kinds.kind(Panels.LIMIT, 0.1, -0.1, -0.1f, -1, -1.0);
         TwinPanel t = Panels.fed(Panels.TABLE, 0.0, -1.0);
         t.point(1, b(0.3), b(0.1));
         t.point(1, b(0.4), b(0.2));
-        reads("a table below its first point", t, 1, 0.1, 0.1f, -1);
+        Kinds.reads("a table below its first point", t, 1, 0.1, 0.1f, -1);
     }
 
     private static void afterEdges() {
         Due.terms("AFTER v: v, but 1.5 or -1.5, with its sign, if its size is above 1.5 (a LAMP lights)");
-        kind(Panels.SUM, 0.0, 1.5, 1.5f, -1, 1.5);
-        kind(Panels.SUM, 0.0, -1.5, -1.5f, -1, -1.5);
-        kind(Panels.SUM, 0.0, Math.nextDown(1.5), 1.5f, -1, 1.5, -ULP);
-        kind(Panels.SUM, 0.0, -Math.nextDown(1.5), -1.5f, -1, -1.5, ULP);
-        kind(Panels.SUM, 0.0, 1.5, 1.5f, -1, 1.5, HALF_ULP);
-        kind(Panels.SUM, 0.0, -1.5, -1.5f, -1, -1.5, -HALF_ULP);
+        Kinds.kind(Panels.SUM, 0.0, 1.5, 1.5f, -1, 1.5);
+        Kinds.kind(Panels.SUM, 0.0, -1.5, -1.5f, -1, -1.5);
+        Kinds.kind(Panels.SUM, 0.0, Math.nextDown(1.5), 1.5f, -1, 1.5, -ULP);
+        Kinds.kind(Panels.SUM, 0.0, -Math.nextDown(1.5), -1.5f, -1, -1.5, ULP);
+        Kinds.kind(Panels.SUM, 0.0, 1.5, 1.5f, -1, 1.5, HALF_ULP);
+        Kinds.kind(Panels.SUM, 0.0, -1.5, -1.5f, -1, -1.5, -HALF_ULP);
         Due.terms("AFTER v: the first number above 1.5, in doubles alone");
-        kind(Panels.SUM, 0.0, 1.5, 1.5f, 0, 1.5, ULP);
-        kind(Panels.SUM, 0.0, -1.5, -1.5f, 0, -1.5, -ULP);
+        Kinds.kind(Panels.SUM, 0.0, 1.5, 1.5f, 0, 1.5, ULP);
+        Kinds.kind(Panels.SUM, 0.0, -1.5, -1.5f, 0, -1.5, -ULP);
         Due.terms("AFTER v: the first float above 1.5, and far above it");
-        kind(Panels.SUM, 0.0, 1.5, 1.5f, 0, 1.5, 0x1.0p-23);
-        kind(Panels.SUM, 0.0, -1.5, -1.5f, 0, -1.5, -0x1.0p-23);
-        kind(Panels.SUM, 0.0, 1.5, 1.5f, 0, 1.5, 1.5, 1.5, 1.5, 1.5, 1.5);
+        Kinds.kind(Panels.SUM, 0.0, 1.5, 1.5f, 0, 1.5, 0x1.0p-23);
+        Kinds.kind(Panels.SUM, 0.0, -1.5, -1.5f, 0, -1.5, -0x1.0p-23);
+        Kinds.kind(Panels.SUM, 0.0, 1.5, 1.5f, 0, 1.5, 1.5, 1.5, 1.5, 1.5, 1.5);
         Due.terms("AFTER v: 0.0 for -0.0");
-        kind(Panels.TURN, 0.0, 0.0, 0.0f, -1, 0.0);
-        kind(Panels.SUM, 0.0, 0.0, 0.0f, -1, -0.0);
-        kind(Panels.PRODUCT, 0.0, 0.0, 0.0f, -1, -1.0, 0.0);
-        kind(Panels.PRODUCT, 0.0, 0.0, 0.0f, -1, -TINY, 0.5);
-        kind(Panels.PART, -1.0, 0.0, 0.0f, -1, 0.0);
-        kind(Panels.QUOTIENT, 0.0, 0.0, 0.0f, -1, 0.0, -1.0);
-        reads("a noise that begins with -0.0", Panels.noises(-0.0), 0, 0.0, 0.0f, -1);
+        Kinds.kind(Panels.TURN, 0.0, 0.0, 0.0f, -1, 0.0);
+        Kinds.kind(Panels.SUM, 0.0, 0.0, 0.0f, -1, -0.0);
+        Kinds.kind(Panels.PRODUCT, 0.0, 0.0, 0.0f, -1, -1.0, 0.0);
+        Kinds.kind(Panels.PRODUCT, 0.0, 0.0, 0.0f, -1, -TINY, 0.5);
+        Kinds.kind(Panels.PART, -1.0, 0.0, 0.0f, -1, 0.0);
+        Kinds.kind(Panels.QUOTIENT, 0.0, 0.0, 0.0f, -1, 0.0, -1.0);
+        Kinds.reads("a noise that begins with -0.0", Panels.noises(-0.0), 0, 0.0, 0.0f, -1);
     }
 
     private static void lamps() {
         Due.terms("the LAMP: in either twin");
-        kind(Panels.QUOTIENT, 0.0, 2.2e-45 / 2.0e-45, 1.5f, 0, 2.2e-45, 2.0e-45);
-        kind(Panels.QUOTIENT, 0.0, 1.5, 1.0f, 0, 2.0e-45, 1.2e-45);
+        Kinds.kind(Panels.QUOTIENT, 0.0, 2.2e-45 / 2.0e-45, 1.5f, 0, 2.2e-45, 2.0e-45);
+        Kinds.kind(Panels.QUOTIENT, 0.0, 1.5, 1.0f, 0, 2.0e-45, 1.2e-45);
         Due.terms("the LAMP is the TIME at which it first lit, or NONE");
         TwinPanel x = new TwinPanel();
         x.module(Panels.DELAY, b(1.0));
@@ -205,56 +188,57 @@ public final class EdgesOfTermsTest {
 
     private static void sums() {
         Due.terms("THE SUM is IN of the least INPUT that has a CORD, and those of others to it, by numbers");
-        kind(Panels.SUM, 0.0, 1.0, 1.0f, -1, 1.0, HALF_ULP, HALF_ULP);
-        kind(Panels.SUM, 0.0, 1.0 + ULP, 1.0f, -1, HALF_ULP, HALF_ULP, 1.0);
-        kind(Panels.SUM, 0.0, 0.1 + 0.2 + 0.3 - 0.6 + 0.7 - 0.5, 0.1f + 0.2f + 0.3f - 0.6f + 0.7f - 0.5f, -1,
+        Kinds.kind(Panels.SUM, 0.0, 1.0, 1.0f, -1, 1.0, HALF_ULP, HALF_ULP);
+        Kinds.kind(Panels.SUM, 0.0, 1.0 + ULP, 1.0f, -1, HALF_ULP, HALF_ULP, 1.0);
+        Kinds.kind(Panels.SUM, 0.0, 0.1 + 0.2 + 0.3 - 0.6 + 0.7 - 0.5, 0.1f + 0.2f + 0.3f - 0.6f + 0.7f - 0.5f, -1,
             0.1, 0.2, 0.3, -0.6, 0.7, -0.5);
         Due.terms("SUM: one INPUT at least, whichever it is");
         for (int input = 0; input < 6; input++) {
             TwinPanel x = Panels.noises(0.3);
             x.module(Panels.SUM, 0L);
             x.cord(1, input, 0, input % 2 == 1);
-            reads("a sum of input " + input, x, 1, input % 2 == 1 ? -0.3 : 0.3, input % 2 == 1 ? -0.3f : 0.3f, -1);
+            boolean isTurned = input % 2 == 1;
+            Kinds.reads("a sum of input " + input, x, 1, isTurned ? -0.3 : 0.3, isTurned ? -0.3f : 0.3f, -1);
         }
     }
 
     private static void quotientsAndRoots() {
         Due.terms("QUOTIENT: if that is 0: 0.0, if IN 0 is 0");
-        kind(Panels.QUOTIENT, 0.0, 0.0, 0.0f, -1, 0.0, 0.0);
-        kind(Panels.QUOTIENT, 0.0, 0.0, 0.0f, -1, -0.0, 0.0);
+        Kinds.kind(Panels.QUOTIENT, 0.0, 0.0, 0.0f, -1, 0.0, 0.0);
+        Kinds.kind(Panels.QUOTIENT, 0.0, 0.0, 0.0f, -1, -0.0, 0.0);
         Due.terms("QUOTIENT: if that is 0: else 1.5 with the sign of IN 0, and the LAMP lights");
-        kind(Panels.QUOTIENT, 0.0, 1.5, 0.0f, 0, TINY, 0.0);
-        kind(Panels.QUOTIENT, 0.0, -1.5, 0.0f, 0, -TINY, 0.0);
-        kind(Panels.QUOTIENT, 0.0, 1.5, 1.5f, 0, 0.1, 0.0);
-        kind(Panels.QUOTIENT, 0.0, -1.5, -1.5f, 0, -1.5, 0.0);
+        Kinds.kind(Panels.QUOTIENT, 0.0, 1.5, 0.0f, 0, TINY, 0.0);
+        Kinds.kind(Panels.QUOTIENT, 0.0, -1.5, 0.0f, 0, -TINY, 0.0);
+        Kinds.kind(Panels.QUOTIENT, 0.0, 1.5, 1.5f, 0, 0.1, 0.0);
+        Kinds.kind(Panels.QUOTIENT, 0.0, -1.5, -1.5f, 0, -1.5, 0.0);
         TwinPanel x = Panels.fed(Panels.QUOTIENT, 0.0, 0.5, 0.0);
         x.cord(2, 1, 1, true);
-        reads("0.5 by a turned 0.0", x, 2, 1.5, 1.5f, 0);
+        Kinds.reads("0.5 by a turned 0.0", x, 2, 1.5, 1.5f, 0);
         Due.terms("QUOTIENT: IN 0 by IN 1, at 1.5 and the first above it");
-        kind(Panels.QUOTIENT, 0.0, 1.5, 1.5f, -1, 0.75, 0.5);
-        kind(Panels.QUOTIENT, 0.0, -1.5, -1.5f, -1, 0.75, -0.5);
-        kind(Panels.QUOTIENT, 0.0, 1.5, 1.5f, 0, Math.nextUp(0.75), 0.5);
-        kind(Panels.QUOTIENT, 0.0, 1.5, 1.5f, 0, 1.5, TINY * 3);
-        kind(Panels.QUOTIENT, 0.0, -1.5, -1.5f, 0, 1.5, -Float.MIN_VALUE);
+        Kinds.kind(Panels.QUOTIENT, 0.0, 1.5, 1.5f, -1, 0.75, 0.5);
+        Kinds.kind(Panels.QUOTIENT, 0.0, -1.5, -1.5f, -1, 0.75, -0.5);
+        Kinds.kind(Panels.QUOTIENT, 0.0, 1.5, 1.5f, 0, Math.nextUp(0.75), 0.5);
+        Kinds.kind(Panels.QUOTIENT, 0.0, 1.5, 1.5f, 0, 1.5, TINY * 3);
+        Kinds.kind(Panels.QUOTIENT, 0.0, -1.5, -1.5f, 0, 1.5, -Float.MIN_VALUE);
         Due.terms("ROOT: below 0: 0.0, and the LAMP lights");
-        kind(Panels.ROOT, 0.0, 0.0, 0.0f, 0, -TINY);
-        kind(Panels.ROOT, 0.0, 0.0, 0.0f, 0, -1.5);
+        Kinds.kind(Panels.ROOT, 0.0, 0.0, 0.0f, 0, -TINY);
+        Kinds.kind(Panels.ROOT, 0.0, 0.0, 0.0f, 0, -1.5);
         Due.terms("ROOT: the square root of IN 0, from 0.0 to 1.5");
-        kind(Panels.ROOT, 0.0, 0.0, 0.0f, -1, 0.0);
-        kind(Panels.ROOT, 0.0, 0.0, 0.0f, -1, -0.0);
-        kind(Panels.ROOT, 0.0, Math.sqrt(TINY), 0.0f, -1, TINY);
-        kind(Panels.ROOT, 0.0, Math.sqrt(1.5), (float) Math.sqrt(1.5), -1, 1.5);
-        kind(Panels.ROOT, 0.0, 1.0, 1.0f, -1, 1.0);
+        Kinds.kind(Panels.ROOT, 0.0, 0.0, 0.0f, -1, 0.0);
+        Kinds.kind(Panels.ROOT, 0.0, 0.0, 0.0f, -1, -0.0);
+        Kinds.kind(Panels.ROOT, 0.0, Math.sqrt(TINY), 0.0f, -1, TINY);
+        Kinds.kind(Panels.ROOT, 0.0, Math.sqrt(1.5), (float) Math.sqrt(1.5), -1, 1.5);
+        Kinds.kind(Panels.ROOT, 0.0, 1.0, 1.0f, -1, 1.0);
         Due.terms("ROOT: rounded once");
         for (int i = 1; i <= 600; i++) {
             double in = i / 400.3;
-            kind(Panels.ROOT, 0.0, Math.sqrt(in), (float) Math.sqrt((float) in), -1, in);
+            Kinds.kind(Panels.ROOT, 0.0, Math.sqrt(in), (float) Math.sqrt((float) in), -1, in);
             double square = Math.nextDown(Math.sqrt(in) * Math.sqrt(in));
-            kind(Panels.ROOT, 0.0, Math.sqrt(square), (float) Math.sqrt((float) square), -1, square);
+            Kinds.kind(Panels.ROOT, 0.0, Math.sqrt(square), (float) Math.sqrt((float) square), -1, square);
         }
         TwinPanel y = Panels.fed(Panels.ROOT, 0.0, 0.0);
         y.cord(1, 0, 0, true);
-        reads("the root of a turned 0.0", y, 1, 0.0, 0.0f, -1);
+        Kinds.reads("the root of a turned 0.0", y, 1, 0.0, 0.0f, -1);
     }
 
     private static TwinPanel table(double in, double[] xs, double[] ys) {
@@ -274,13 +258,13 @@ public final class EdgesOfTermsTest {
         double[] ys = {1.5, -1.0, 0.5, 0.25, -0.75, 1.25, -1.5, 1.0};
         Due.terms("TABLE: at each x of 8 points its y");
         for (int i = 0; i < 8; i++) {
-            reads("a table at " + xs[i], table(xs[i], xs, ys), 1, ys[i], (float) ys[i], -1);
+            Kinds.reads("a table at " + xs[i], table(xs[i], xs, ys), 1, ys[i], (float) ys[i], -1);
         }
         Due.terms("TABLE: else of the last point whose x is not above IN 0, and the next one");
         for (int i = 0; i < 7; i++) {
             double mid = (xs[i] + xs[i + 1]) / 2.0;
             double due = (mid - xs[i]) * (ys[i + 1] - ys[i]) / (xs[i + 1] - xs[i]) + ys[i];
-            reads("a table at " + mid, table(mid, xs, ys), 1, due, (float) due, -1);
+            Kinds.reads("a table at " + mid, table(mid, xs, ys), 1, due, (float) due, -1);
         }
         Due.terms("TABLE: y of the first, if IN 0 is its x or below; y of the last, if IN 0 is its x or above");
         double[] two = {-0.5, 0.5};
@@ -288,66 +272,66 @@ public final class EdgesOfTermsTest {
         double[] ins = {-1.5, Math.nextDown(-0.5), -0.5, 0.5, Math.nextUp(0.5), 1.5};
         for (int i = 0; i < ins.length; i++) {
             double due = i < 3 ? 0.25 : -1.0;
-            reads("a table of two at " + ins[i], table(ins[i], two, ends), 1, due, (float) due, -1);
+            Kinds.reads("a table of two at " + ins[i], table(ins[i], two, ends), 1, due, (float) due, -1);
         }
         double within = Math.nextUp(-0.5);
-        reads("a table of two just above its first", table(within, two, ends), 1,
+        Kinds.reads("a table of two just above its first", table(within, two, ends), 1,
             (within - -0.5) * -1.25 / 1.0 + 0.25, 0.25f, -1);
         within = Math.nextDown(0.5);
-        reads("a table of two just below its last", table(within, two, ends), 1,
+        Kinds.reads("a table of two just below its last", table(within, two, ends), 1,
             (within - -0.5) * -1.25 / 1.0 + 0.25, -1.0f, -1);
         Due.terms("TABLE: points that are next to each other as floats, from one end to the other");
         double[] near = {0.5, Math.nextUp(0.5f)};
         double middle = (near[0] + near[1]) / 2.0;
-        reads("a table of near points", table(middle, near, new double[] {-1.5, 1.5}), 1, 0.0, -1.5f, -1);
+        Kinds.reads("a table of near points", table(middle, near, new double[] {-1.5, 1.5}), 1, 0.0, -1.5f, -1);
         Due.terms("TABLE: at an x its y alone, where what is between would be rounded to another number");
         double[] odd = {-1.4, -1.3, -1.2};
         double[] oddYs = {-1.3, 0.1, 0.3};
         Due.dueTrue("it would in the middle", between(-1.3, -1.4, -1.3, -1.3, 0.1) != 0.1);
         Due.dueTrue("it would at the last", between(-1.2, -1.3, 0.1, -1.2, 0.3) != 0.3);
         for (int i = 0; i < 3; i++) {
-            reads("a table at " + odd[i], table(odd[i], odd, oddYs), 1, oddYs[i], (float) oddYs[i], -1);
+            Kinds.reads("a table at " + odd[i], table(odd[i], odd, oddYs), 1, oddYs[i], (float) oddYs[i], -1);
         }
         Due.terms("TABLE: every y may be of the greatest size");
         double[] wide = {-1.5, 1.5};
-        reads("a table at -0.75", table(-0.75, wide, new double[] {-1.5, 1.5}), 1, -0.75, -0.75f, -1);
-        reads("a table at 0.75", table(0.75, wide, new double[] {1.5, -1.5}), 1, -0.75, -0.75f, -1);
+        Kinds.reads("a table at -0.75", table(-0.75, wide, new double[] {-1.5, 1.5}), 1, -0.75, -0.75f, -1);
+        Kinds.reads("a table at 0.75", table(0.75, wide, new double[] {1.5, -1.5}), 1, -0.75, -0.75f, -1);
     }
 
     private static void comparesAndRelays() {
         Due.terms("COMPARE: 1.0, if IN 0 is above IN 1, else -1.0");
-        kind(Panels.COMPARE, 0.0, 1.0, -1.0f, -1, TINY, 0.0);
-        kind(Panels.COMPARE, 0.0, -1.0, -1.0f, -1, 0.0, TINY);
-        kind(Panels.COMPARE, 0.0, -1.0, -1.0f, -1, 0.0, 0.0);
-        kind(Panels.COMPARE, 0.0, -1.0, -1.0f, -1, 0.0, -0.0);
-        kind(Panels.COMPARE, 0.0, -1.0, -1.0f, -1, 1.5, 1.5);
-        kind(Panels.COMPARE, 0.0, 1.0, 1.0f, -1, 1.5, -1.5);
-        kind(Panels.COMPARE, 0.0, 1.0, -1.0f, -1, 1.5, Math.nextDown(1.5));
+        Kinds.kind(Panels.COMPARE, 0.0, 1.0, -1.0f, -1, TINY, 0.0);
+        Kinds.kind(Panels.COMPARE, 0.0, -1.0, -1.0f, -1, 0.0, TINY);
+        Kinds.kind(Panels.COMPARE, 0.0, -1.0, -1.0f, -1, 0.0, 0.0);
+        Kinds.kind(Panels.COMPARE, 0.0, -1.0, -1.0f, -1, 0.0, -0.0);
+        Kinds.kind(Panels.COMPARE, 0.0, -1.0, -1.0f, -1, 1.5, 1.5);
+        Kinds.kind(Panels.COMPARE, 0.0, 1.0, 1.0f, -1, 1.5, -1.5);
+        Kinds.kind(Panels.COMPARE, 0.0, 1.0, -1.0f, -1, 1.5, Math.nextDown(1.5));
         Due.terms("RELAY: IN 0, if IN 2 is above 0, else IN 1");
-        kind(Panels.RELAY, 0.0, 0.3, 0.7f, -1, 0.3, 0.7, TINY);
-        kind(Panels.RELAY, 0.0, 0.3, 0.3f, -1, 0.3, 0.7, Float.MIN_VALUE);
-        kind(Panels.RELAY, 0.0, 0.7, 0.7f, -1, 0.3, 0.7, 0.0);
-        kind(Panels.RELAY, 0.0, 0.7, 0.7f, -1, 0.3, 0.7, -0.0);
-        kind(Panels.RELAY, 0.0, 0.7, 0.7f, -1, 0.3, 0.7, -TINY);
+        Kinds.kind(Panels.RELAY, 0.0, 0.3, 0.7f, -1, 0.3, 0.7, TINY);
+        Kinds.kind(Panels.RELAY, 0.0, 0.3, 0.3f, -1, 0.3, 0.7, Float.MIN_VALUE);
+        Kinds.kind(Panels.RELAY, 0.0, 0.7, 0.7f, -1, 0.3, 0.7, 0.0);
+        Kinds.kind(Panels.RELAY, 0.0, 0.7, 0.7f, -1, 0.3, 0.7, -0.0);
+        Kinds.kind(Panels.RELAY, 0.0, 0.7, 0.7f, -1, 0.3, 0.7, -TINY);
         Due.terms("LIMIT: IN 0, but s, if it is above s, less s, if it is below that");
-        kind(Panels.LIMIT, 0.5, 0.5, 0.5f, -1, 0.5);
-        kind(Panels.LIMIT, 0.5, -0.5, -0.5f, -1, -0.5);
-        kind(Panels.LIMIT, 0.5, 0.5, 0.5f, -1, Math.nextUp(0.5));
-        kind(Panels.LIMIT, 0.5, -0.5, -0.5f, -1, -Math.nextUp(0.5));
-        kind(Panels.LIMIT, 0.5, Math.nextDown(0.5), 0.5f, -1, Math.nextDown(0.5));
-        kind(Panels.LIMIT, 0.5, -Math.nextDown(0.5), -0.5f, -1, -Math.nextDown(0.5));
-        kind(Panels.LIMIT, 0.0, 0.0, 0.0f, -1, 1.5);
-        kind(Panels.LIMIT, 0.0, 0.0, 0.0f, -1, -1.5);
-        kind(Panels.LIMIT, 1.5, 1.5, 1.5f, -1, 1.5);
-        kind(Panels.LIMIT, 1.5, -1.5, -1.5f, -1, -1.5);
+        Kinds.kind(Panels.LIMIT, 0.5, 0.5, 0.5f, -1, 0.5);
+        Kinds.kind(Panels.LIMIT, 0.5, -0.5, -0.5f, -1, -0.5);
+        Kinds.kind(Panels.LIMIT, 0.5, 0.5, 0.5f, -1, Math.nextUp(0.5));
+        Kinds.kind(Panels.LIMIT, 0.5, -0.5, -0.5f, -1, -Math.nextUp(0.5));
+        Kinds.kind(Panels.LIMIT, 0.5, Math.nextDown(0.5), 0.5f, -1, Math.nextDown(0.5));
+        Kinds.kind(Panels.LIMIT, 0.5, -Math.nextDown(0.5), -0.5f, -1, -Math.nextDown(0.5));
+        Kinds.kind(Panels.LIMIT, 0.0, 0.0, 0.0f, -1, 1.5);
+        Kinds.kind(Panels.LIMIT, 0.0, 0.0, 0.0f, -1, -1.5);
+        Kinds.kind(Panels.LIMIT, 1.5, 1.5, 1.5f, -1, 1.5);
+        Kinds.kind(Panels.LIMIT, 1.5, -1.5, -1.5f, -1, -1.5);
         Due.terms("PART: IN 0 times s, from -1.0 to 1.0");
-        kind(Panels.PART, 1.0, 1.5, 1.5f, -1, 1.5);
-        kind(Panels.PART, -1.0, -1.5, -1.5f, -1, 1.5);
-        kind(Panels.PART, 0.0, 0.0, 0.0f, -1, 1.5);
+        Kinds.kind(Panels.PART, 1.0, 1.5, 1.5f, -1, 1.5);
+        Kinds.kind(Panels.PART, -1.0, -1.5, -1.5f, -1, 1.5);
+        Kinds.kind(Panels.PART, 0.0, 0.0, 0.0f, -1, 1.5);
         Due.terms("PRODUCT: IN 0 times IN 1");
-        kind(Panels.PRODUCT, 0.0, 1.5, 1.5f, -1, 1.5, 1.0);
-        kind(Panels.PRODUCT, 0.0, 1.5, 1.5f, 0, 1.5, 1.5);
-        kind(Panels.PRODUCT, 0.0, -1.5, -1.5f, 0, -1.5, 1.5);
+        Kinds.kind(Panels.PRODUCT, 0.0, 1.5, 1.5f, -1, 1.5, 1.0);
+        Kinds.kind(Panels.PRODUCT, 0.0, 1.5, 1.5f, 0, 1.5, 1.5);
+        Kinds.kind(Panels.PRODUCT, 0.0, -1.5, -1.5f, 0, -1.5, 1.5);
     }
 
     private static void delays() {
@@ -408,7 +392,7 @@ public final class EdgesOfTermsTest {
         for (double gate : gates) {
             TwinPanel x = Panels.fed(Panels.TRACK, 0.0, 0.3, gate);
             x.begin(2, b(-1.1));
-            reads("a track at START", x, 2, -1.1, -1.1f, -1);
+            Kinds.reads("a track at START", x, 2, -1.1, -1.1f, -1);
             x.run(1);
             Due.dueNumber("track by " + gate, x.reading(2), gate > 0.0 ? 0.3 : -1.1);
             Due.dueSingle("track in floats by " + gate, x.single(2), (float) gate > 0.0f ? 0.3f : -1.1f);

@@ -69,6 +69,23 @@ public final class FaceTest {
         Due.due("FULL", c.getField("FULL").getInt(null), -104);
     }
 
+    /** The document's face, line by line, is the one that is tested here. */
+    private static void faceOfTheDocument() throws IOException {
+        Path document = Path.of("../shared/DOC.md");
+        if (!Files.exists(document)) {
+            System.out.println(document + " is not here: the face was not compared with it");
+            return;
+        }
+        TreeSet<String> due = new TreeSet<>();
+        for (String line : Files.readAllLines(document, StandardCharsets.UTF_8)) {
+            if (line.matches("    public (int|long) .*\\);")) {
+                String call = line.trim().substring("public ".length()).replace(";", "");
+                due.add(call.replaceAll("(int|long|boolean) [a-z]+(?=[,)])", "$1"));
+            }
+        }
+        Due.dueText("the face", new TreeSet<>(Arrays.asList(METHODS)).toString(), due.toString());
+    }
+
     private static void privateNames(Class<?> c, TreeSet<String> names) {
         for (Method m : c.getDeclaredMethods()) {
             if (isPrivate(m)) {
@@ -122,6 +139,7 @@ public final class FaceTest {
 
     public static void main(String[] args) throws IOException, ReflectiveOperationException {
         face();
+        faceOfTheDocument();
         staticFields(TwinPanel.class);
         text();
         Due.end();

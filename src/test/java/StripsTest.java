@@ -108,7 +108,8 @@ public final class StripsTest {
             }
             Due.dueTrue("strip " + s + " has some", crossings.size() + peaks.size() > 2);
             for (int k = 0; k < 20; k++) {
-                Due.due("crossing(" + s + ", " + k + ")", x.crossing(s, k), k < crossings.size() ? crossings.get(k) : -1);
+                Due.due("crossing(" + s + ", " + k + ")", x.crossing(s, k),
+                    k < crossings.size() ? crossings.get(k) : -1);
                 Due.due("peak(" + s + ", " + k + ")", x.peak(s, k), k < peaks.size() ? peaks.get(k) : -1);
             }
         }
