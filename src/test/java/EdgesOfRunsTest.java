@@ -448,6 +448,16 @@ public final class EdgesOfRunsTest {
         Due.promise(20, "0 also: no GATHER");
         Due.due("rate(0)", x.rate(0), 0L);
         Due.due("rate(1)", x.rate(1), 0L);
+        Due.promise(20, "THE SUM of what does not remember, TURNED");
+        TwinPanel z = Panels.fed(Panels.SUM, 0.0, 0.3);
+        z.module(Panels.GATHER, 0L);
+        z.cord(2, 0, 1, true);
+        z.mode(1);
+        Due.dueNumber("rate(2)", z.rate(2), -0.3);
+        z.mode(0);
+        z.cord(1, 1, 0, true);
+        z.mode(1);
+        Due.dueNumber("rate(2) of a sum of 0.0", z.rate(2), -0.0);
         Due.promise(20, "of a GATHER of itself: of what it reads at START");
         TwinPanel y = new TwinPanel();
         y.module(Panels.GATHER, 0L);

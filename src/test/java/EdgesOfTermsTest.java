@@ -82,6 +82,31 @@ public final class EdgesOfTermsTest {
         }
     }
 
+    private static void lampAgainstNumbers() {
+        Due.terms("the LAMP of a MODULE: of that which lit, though others of higher numbers are READ ahead of it");
+        TwinPanel x = new TwinPanel();
+        x.module(Panels.ROOT, 0L);
+        x.module(Panels.SUM, 0L);
+        x.module(Panels.TURN, 0L);
+        x.module(Panels.NOISE, 0L);
+        x.cord(0, 0, 1, true);
+        x.cord(1, 0, 2, false);
+        x.cord(2, 0, 3, true);
+        x.begin(3, b(0.5));
+        Kinds.reads("a root below 0, read as the last one", x, 0, 0.0, 0.0f, 0);
+        for (int m = 1; m < 4; m++) {
+            Due.due("lamp(" + m + ")", x.lamp(m), -1);
+        }
+        x.mode(0);
+        x.cord(1, 1, 2, false);
+        x.cord(1, 2, 2, false);
+        x.cord(1, 3, 2, false);
+        x.mode(1);
+        Due.due("lamp(1), a sum of 2.0", x.lamp(1), 0);
+        Due.due("lamp(2)", x.lamp(2), -1);
+        Due.due("lamp(3)", x.lamp(3), -1);
+    }
+
     /** A gather goes up to a noise and back: from y by stages beyond it, behind each step to y again. */
     private static TwinPanel upAndBack(double y, double goal, int rule) {
         TwinPanel x = new TwinPanel();
@@ -182,6 +207,46 @@ public final class EdgesOfTermsTest {
                         Due.dueSingle("gather " + i + " in floats at " + time, x.single(2 * i), f[i]);
                     }
                 }
+            }
+        }
+    }
+
+    /** Floats so small that a product by t is rounded too, which the sum behind it does not mend. */
+    private static void rulesOfSmallNumbers() {
+        Due.terms("each act is done in the twin's own numbers, and rounded once: t times RATE of the least floats");
+        for (int rule = 0; rule < 3; rule++) {
+            TwinPanel least = new TwinPanel();
+            least.module(Panels.GATHER, 0L);
+            least.cord(0, 0, 0, false);
+            least.begin(0, b(Float.MIN_VALUE));
+            least.rule(rule, 1);
+            least.mode(1);
+            least.run(1);
+            float y = Float.MIN_VALUE;
+            float[] due = {y + 0.5f * y, y + 0.25f * (y + y), y + 0.5f * ((((y + 2.0f * y) + 2.0f * y) + y) / 6.0f)};
+            Due.dueSingle("the least float by rule " + rule, least.single(0), due[rule]);
+        }
+        java.util.Random random = new java.util.Random(9);
+        for (int round = 0; round < 600; round++) {
+            int rule = round % 3;
+            int k = 1 + random.nextInt(20);
+            TwinPanel x = new TwinPanel();
+            float[] f = new float[10];
+            for (int i = 0; i < 10; i++) {
+                x.module(Panels.GATHER, 0L);
+                x.module(Panels.PART, b(0.3));
+                x.cord(2 * i, 0, 2 * i + 1, true);
+                x.cord(2 * i + 1, 0, 2 * i, false);
+                f[i] = Math.scalb(random.nextFloat() - 0.5f, -118 - random.nextInt(30));
+                x.begin(2 * i, b(f[i]));
+            }
+            x.rule(rule, k);
+            x.mode(1);
+            x.run(1);
+            for (int i = 0; i < 10; i++) {
+                float due = stepOfFloats(rule, 1.0f / (1 << k), f[i]);
+                due = due == 0.0f ? 0.0f : due;
+                Due.dueSingle("from " + f[i] + " by rule " + rule + ", k " + k, x.single(2 * i), due);
             }
         }
     }
@@ -298,6 +363,29 @@ public final class EdgesOfTermsTest {
         Kinds.reads("a table at 0.75", table(0.75, wide, new double[] {1.5, -1.5}), 1, -0.75, -0.75f, -1);
     }
 
+    /** As many tables as there may be, each with as many points as it may have. */
+    private static void fullTables() {
+        Due.terms("TABLE: 8 points of each of 19 tables");
+        TwinPanel x = Panels.noises(0.3);
+        for (int m = 1; m < 20; m++) {
+            x.module(Panels.TABLE, 0L);
+            x.cord(m, 0, 0, false);
+            for (int i = 0; i < 8; i++) {
+                Due.due("point", x.point(m, b(i / 8.0 - 0.4), b((i % 2 == 0 ? m : -m) / 19.0)), i + 1);
+            }
+        }
+        Due.due("mode(1)", x.mode(1), 0);
+        float before = (float) (5 / 8.0 - 0.4);
+        float next = (float) (6 / 8.0 - 0.4);
+        for (int m = 1; m < 20; m++) {
+            double y = m / 19.0;
+            Due.due("about(" + m + ", 13)", x.about(m, 13), 8);
+            Due.dueNumber("reading(" + m + ")", x.reading(m), between(0.3, 5 / 8.0 - 0.4, -y, 6 / 8.0 - 0.4, y));
+            float fy = (float) y;
+            Due.dueSingle("single(" + m + ")", x.single(m), (0.3f - before) * (fy - -fy) / (next - before) + -fy);
+        }
+    }
+
     private static void comparesAndRelays() {
         Due.terms("COMPARE: 1.0, if IN 0 is above IN 1, else -1.0");
         Kinds.kind(Panels.COMPARE, 0.0, 1.0, -1.0f, -1, TINY, 0.0);
@@ -399,6 +487,30 @@ public final class EdgesOfTermsTest {
         }
     }
 
+    /** As many as there may be of each kind that takes what was read: 0 to 18 take from the next one, 19 from 0. */
+    private static void ringsOfTwenty() {
+        Due.terms("TRACK, DELAY: 20 of them");
+        for (int kind : new int[] {Panels.TRACK, Panels.DELAY}) {
+            TwinPanel x = new TwinPanel();
+            for (int m = 0; m < 20; m++) {
+                x.module(kind, kind == Panels.DELAY ? b(1.0) : 0L);
+                x.begin(m, b(0.01 + m / 16.0));
+            }
+            for (int m = 0; m < 20; m++) {
+                x.cord(m, 0, (m + 1) % 20, false);
+                x.cord(m, 1, m, false);
+            }
+            Due.due("mode(1)", x.mode(1), 0);
+            for (int time = 0; time < 22; time++) {
+                for (int m = 0; m < 20; m++) {
+                    Due.dueNumber("kind " + kind + ", " + m + " at " + time, x.reading(m),
+                        0.01 + (m + time) % 20 / 16.0);
+                }
+                x.run(1);
+            }
+        }
+    }
+
     private static void readInLevels() {
         Due.terms("READ: level by level, so that a chain against its numbers is read at once");
         TwinPanel x = new TwinPanel();
@@ -427,15 +539,19 @@ public final class EdgesOfTermsTest {
         nearestFloats();
         afterEdges();
         lamps();
+        lampAgainstNumbers();
         lampsOfStages();
         rules();
+        rulesOfSmallNumbers();
         sums();
         quotientsAndRoots();
         tables();
+        fullTables();
         comparesAndRelays();
         delays();
         noises();
         tracks();
+        ringsOfTwenty();
         readInLevels();
         Due.end();
     }

@@ -209,6 +209,15 @@ public final class EdgesOfTrialsTest {
         }
         double last = Math.abs(decayed(0, 1, 20) - decayed(0, 2, 40));
         Due.dueTrue("it is above the last one", gaps[20] > last);
+        Due.promise(28, "the READINGS of q, of what does not remember too");
+        TwinPanel turned = decaying(0, 1);
+        turned.mode(0);
+        turned.module(Panels.TURN, 0L);
+        turned.cord(1, 0, 0, false);
+        turned.mode(1);
+        for (int n = 1; n <= 20; n++) {
+            Due.dueNumber("halved(1, " + n + ")", turned.halved(1, n), gaps[n]);
+        }
         Due.promise(28, "0.0, where there is no difference");
         TwinPanel still = decaying(0, 4);
         still.mode(0);
